@@ -5,7 +5,7 @@ import java.lang.reflect.Modifier;
 import java.util.Set;
 import java.util.TreeSet;
 
-/** The public face: what the document lists, and nothing else that another class could see. */
+/** The public face: what the document lists, and nothing else that another class could see (rules 1, 2, 5, 11). */
 public final class FaceTest {
     private static final Set<String> FACE = Set.of(
             "public RangeRules()",
@@ -37,7 +37,30 @@ public final class FaceTest {
         int modifiers = RangeRules.class.getModifiers();
         due.answer("public and final", Modifier.isPublic(modifiers) && Modifier.isFinal(modifiers), true);
         due.answer("the face is " + seen, seen.equals(FACE), true);
+        privateMethods(due);
+        classesInside(due);
         due.end();
+    }
+
+    private static void privateMethods(Due due) {
+        Set<String> names = new TreeSet<>();
+        for (Method method : RangeRules.class.getMethods()) {
+            names.add(method.getName());
+        }
+        for (Method method : RangeRules.class.getDeclaredMethods()) {
+            due.answer(method + " takes at most seven", method.getParameterCount() <= 7, true);
+            if (Modifier.isPrivate(method.getModifiers())) {
+                due.answer(method + " bears a public one's name", names.contains(method.getName()), false);
+            }
+        }
+    }
+
+    private static void classesInside(Due due) {
+        for (Class<?> inside : RangeRules.class.getDeclaredClasses()) {
+            int modifiers = inside.getModifiers();
+            due.answer(inside + " is static", Modifier.isStatic(modifiers), true);
+            due.answer(inside + " is hidden", Modifier.isPublic(modifiers) || Modifier.isProtected(modifiers), false);
+        }
     }
 
     private static void see(Set<String> seen, int modifiers, String member) {
