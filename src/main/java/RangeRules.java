@@ -14,6 +14,10 @@ public final class RangeRules {
     private static final int SHIFT_LEFT = 8;
     private static final int SHIFT_RIGHT = 9;
 
+    // Written out, since the rules allow Integer's and Long's functions and do not name their constants.
+    private static final int LEAST_INT = -2147483648;
+    private static final int GREATEST_INT = 2147483647;
+
     private static final int REFUSED = -1;
     private static final int NO_RESULT = 0;
     private static final int TOLD = 1;
@@ -46,11 +50,11 @@ public final class RangeRules {
             return REFUSED;
         }
         aroundCount++;
-        if (n > Integer.MIN_VALUE) {
+        if (n > LEAST_INT) {
             addThreshold(n - 1);
         }
         addThreshold(n);
-        if (n < Integer.MAX_VALUE) {
+        if (n < GREATEST_INT) {
             addThreshold(n + 1);
         }
         return thresholdCount;
@@ -67,7 +71,7 @@ public final class RangeRules {
 
     public int down(int v) {
         // The least int is always a threshold, so it is the answer if no other one fits.
-        int best = Integer.MIN_VALUE;
+        int best = LEAST_INT;
         for (int i = 0; i < thresholdCount; i++) {
             int threshold = thresholds[i];
             if (threshold <= v && threshold > best) {
@@ -79,7 +83,7 @@ public final class RangeRules {
 
     public int up(int v) {
         // The greatest int is always a threshold, so it is the answer if no other one fits.
-        int best = Integer.MAX_VALUE;
+        int best = GREATEST_INT;
         for (int i = 0; i < thresholdCount; i++) {
             int threshold = thresholds[i];
             if (threshold >= v && threshold < best) {
@@ -170,12 +174,12 @@ public final class RangeRules {
     }
 
     private void tellAllInts() {
-        resultLow = Integer.MIN_VALUE;
-        resultHigh = Integer.MAX_VALUE;
+        resultLow = LEAST_INT;
+        resultHigh = GREATEST_INT;
     }
 
     private static boolean isInt(long v) {
-        return v >= Integer.MIN_VALUE && v <= Integer.MAX_VALUE;
+        return v >= LEAST_INT && v <= GREATEST_INT;
     }
 
     // The ends are longs here and in divide, since 2^31 comes as a factor and as a quotient.
@@ -266,12 +270,15 @@ public final class RangeRules {
 
     /** The least and the greatest of the numbers taken since it was emptied. */
     private static final class Span {
+        private static final long LEAST_LONG = -9223372036854775808L;
+        private static final long GREATEST_LONG = 9223372036854775807L;
+
         private long least;
         private long greatest;
 
         private void empty() {
-            least = Long.MAX_VALUE;
-            greatest = Long.MIN_VALUE;
+            least = GREATEST_LONG;
+            greatest = LEAST_LONG;
         }
 
         private void take(long v) {
